@@ -277,33 +277,41 @@ public final class PromisesTest {
         due("384 and 16", y.minutes(16), 400);
     }
 
+    /** By a wind of 1 alone a skin grows by 1 in a minute, so that each limit is met at its edge. */
     private static void limits() {
-        CoalGrate x = of("g30,9;w0;k4;d8;");
-        x.minutes(5);
-        due("thin 45 is not above 45", x.thing(2, 5), 0);
-        x.minutes(1);
-        due("thin 54", x.thing(2, 5), 1);
-        x.minutes(4);
-        due("sausage 90 is not above 90", x.thing(0, 5), 0);
-        x.minutes(1);
-        due("sausage 99", x.thing(0, 5), 1);
-        x.minutes(2);
-        due("chicken 117", x.thing(1, 5), 0);
-        x.minutes(1);
-        due("chicken 126", x.thing(1, 5), 1);
-        x.move(1, 12);
-        x.minutes(20);
-        due("it stays burnt", x.thing(1, 5), 1);
-        CoalGrate y = of("g30,5;h0;m4;");
-        y.minutes(14);
-        due("cheese 70", y.thing(0, 5), 0);
-        y.minutes(1);
-        due("cheese 75", y.thing(0, 5), 1);
-        y.minutes(5);
-        due("corn 100", y.thing(1, 5), 0);
-        y.minutes(1);
-        due("corn 105", y.thing(1, 5), 1);
-        due("corn core by 10", y.thing(1, 1), (5 * 21 * 22 / 2 - 11 * 5) / 10);
+        String sorts = "wkdhm";
+        int[] limit = {90, 120, 45, 70, 100};
+        int[] thick = {8, 16, 4, 6, 10};
+        int[] need = {40, 80, 20, 15, 50};
+        for (int k = 0; k < 5; k++) {
+            CoalGrate x = of("g1,1;" + sorts.charAt(k) + "0;");
+            int core = 0;
+            for (int m = 1; m <= limit[k]; m++) {
+                x.minutes(1);
+                core += m / thick[k];
+                due("core of " + sorts.charAt(k), x.thing(0, 1), core);
+            }
+            due("at the limit", x.thing(0, 5), 0);
+            x.minutes(1);
+            due("above the limit", x.thing(0, 5), 1);
+            x.move(0, 12);
+            x.minutes(24);
+            due("it stays burnt", x.thing(0, 5), 1);
+            due("need of " + sorts.charAt(k), throughAt(sorts.charAt(k)), need[k]);
+        }
+    }
+
+    /** The least core at which a thing of that sort was ever seen to be through, over many fires. */
+    private static int throughAt(char sort) {
+        int least = HIGH;
+        for (int fire = 1; fire <= 30; fire++) {
+            CoalGrate x = of("g30,0;c1," + fire + ";" + sort + "1;");
+            for (int m = 0; m < 50; m++) {
+                least = x.thing(0, 6) == 1 ? Math.min(least, x.thing(0, 1)) : least;
+                x.minutes(1);
+            }
+        }
+        return least;
     }
 
     private static void turn() {
@@ -317,6 +325,13 @@ public final class PromisesTest {
         due("the other one 2 less", x.thing(0, 3), 8);
         due("side 0", x.thing(0, 2), 10);
         due("core by both", x.thing(0, 1), 1 + 3);
+        x.move(0, 12);
+        x.minutes(1);
+        due("aside both are 3 less", x.thing(0, 2), 7);
+        due("aside both are 3 less", x.thing(0, 3), 5);
+        x.minutes(2);
+        due("0 at least", x.thing(0, 3), 0);
+        x.move(0, 0);
         due("aside, too", x.turn(1), 1);
         due("no such", x.turn(2), BAD);
         due("no such", x.turn(-1), BAD);
@@ -652,6 +667,12 @@ public final class PromisesTest {
         x.minutes(4);
         x.serve(0, 0);
         due("served", x.flips(0, 1, 0), STATE);
+        CoalGrate z = of("g4,0;c0,27;w0;");
+        z.turn(0);
+        z.coal(0, 3);
+        z.minutes(1);
+        due("three", z.flips(0, 5, 0), 3);
+        due("14 and 21 do: the least", z.flips(0, 5, 1), 14);
         CoalGrate y = of("g1,0;c0,30;d0;");
         y.minutes(2);
         due("burnt is never mended", y.flips(0, 12, 1), NONE);
@@ -703,6 +724,7 @@ public final class PromisesTest {
         x.minutes(6);
         x.serve(0, 0);
         due("served", x.fuelFor(0, 6), STATE);
+        due("30", of("g30,0;h0;").fuelFor(0, 4), 30);
         due("a coal that sinks", of("g1,0;h0;").fuelFor(0, 6), 13);
     }
 
@@ -796,7 +818,10 @@ public final class PromisesTest {
         x.set(0, 0, 0);
         due("a served one", x.judged(0, 0, 1), BAD);
         x.row(2, 2, 40);
-        due("40", x.judged(2, 39, 0), 0);
+        for (int i = 0; i < 40; i++) {
+            x.set(2, i, -1);
+        }
+        due("40", x.judged(2, 0, 40), 0);
     }
 
     private static void fuel() {
