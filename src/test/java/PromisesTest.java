@@ -70,7 +70,9 @@ public final class PromisesTest {
         due("status", x.status(), 4);
         due("row 7 stays", x.drop(7), 40);
         x.row(2, 2, 3);
+        x.set(2, 0, 77);
         x.set(2, 1, 77);
+        x.set(2, 2, 77);
         due("anew", x.row(2, 2, 3), 3);
         tell(x, "g30,0;d0;");
         x.yard();
