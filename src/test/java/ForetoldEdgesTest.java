@@ -313,7 +313,7 @@ public final class ForetoldEdgesTest {
         Due.is("burnt", x.flips(0, 12, 1), NONE);
         Due.promise(25, "of several ways the one that is the least number by bits");
         String[] texts = {"g30,0;c0,10;h0;", "g7,0;c1,4;k1;", "g8,0;c1,4;k1;", "g1,0;c1,12;d1;", "g1,0;c1,12;d1;",
-            "g24,0;c1,3;k1;", "g2,0;c1,13;h1;", "g3,0;c1,7;d1;", "g6,0;c1,5;w1;", "g30,0;c1,11;m1;"};
+            "g24,0;c1,3;k1;", "g2,0;c1,13;h1;", "g3,0;c1,7;d1;", "g6,0;c1,5;w1;", "g30,0;c1,30;m1;"};
         String[] acts = {"", "mmmmmmmmmm", "mmmmmmmmmm", "mmtmmmt", "mmtmmmtm", "mmmmmmmmmmmtmm", "mmmtmmmmmmtmmmmt",
             "mmmmt", "mmm", ""};
         int[] how = {32, 2048, 1024, 94, 47, 2049, 4079, 1078, 1, NONE};
@@ -321,7 +321,7 @@ public final class ForetoldEdgesTest {
             CoalGrate y = behind(texts[k], acts[k]);
             int way = bestByDoing(texts[k], acts[k], 12);
             Due.is("how by doing, " + texts[k] + acts[k], y.flips(0, 12, 1), way);
-            Due.is("how, " + texts[k] + acts[k], way, how[k] == NONE ? way : how[k]);
+            Due.is("how, " + texts[k] + acts[k], y.flips(0, 12, 1), how[k]);
             Due.is("how many, " + texts[k] + acts[k], y.flips(0, 12, 0), way == NONE ? NONE : Integer.bitCount(way));
         }
     }
