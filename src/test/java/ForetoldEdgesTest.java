@@ -200,6 +200,8 @@ public final class ForetoldEdgesTest {
         Due.is("through, aside", x.where(0), 2);
         x.move(1, 12);
         Due.is("0 is free", x.where(0), 0);
+        Due.is("the last one, by one minute", Due.of("g30,0;c0,8;c11,10;h12;").where(0), 11);
+        Due.are("5 and 4 minutes", new int[] {Due.of("g30,0;c0,8;h0;").ready(0), Due.of("g30,0;c11,10;h11;").ready(0)}, 5, 4);
         Due.promise(23, "READY within 60 MINUTES; NONE");
         CoalGrate y = slowCorn();
         Due.is("61", y.where(0), NONE);
@@ -248,6 +250,14 @@ public final class ForetoldEdgesTest {
         z.move(0, 11);
         z.minutes(4);
         Due.is("burnt: none", z.inTime(0, 60), 0);
+        Due.promise(24, "MOVED there now: SKINS and CORE go with it");
+        CoalGrate warm = Due.of(CHEESE);
+        warm.minutes(3);
+        Due.is("skin 40: core 15", warm.inTime(0, 1), 1);
+        Due.is("skin 30 where it is cold: core 14, 19", warm.inTime(0, 2), 4095);
+        warm.turn(0);
+        Due.is("28 above, 10 below: core 15", warm.inTime(0, 1), 1);
+        Due.is("28, then 26 above where it is cold: core 13, 17", warm.inTime(0, 2), 4095);
         Due.promise(24, "BAD; STATE");
         Due.is("no yard", new CoalGrate().inTime(0, 0), BAD);
         CoalGrate s = served();
@@ -324,6 +334,25 @@ public final class ForetoldEdgesTest {
             Due.is("how, " + texts[k] + acts[k], y.flips(0, 12, 1), how[k]);
             Due.is("how many, " + texts[k] + acts[k], y.flips(0, 12, 0), way == NONE ? NONE : Integer.bitCount(way));
         }
+    }
+
+    private static void flipsInEachNumberOfMinutes() {
+        Due.promise(25, "in n MINUTES: neither more nor fewer of them");
+        String[] texts = {CHEESE, "g30,0;c1,12;d1;", "g2,0;c1,13;h1;", "g1,0;c1,12;d1;"};
+        String[] acts = {"mmmmmm", "mm", "mmmtmm", "mmtm"};
+        for (int k = 0; k < texts.length; k++) {
+            for (int n = 12; n >= 1; n--) {
+                CoalGrate x = behind(texts[k], acts[k]);
+                int way = bestByDoing(texts[k], acts[k], n);
+                x.flips(0, 12, 0);
+                Due.is(n + " minutes of " + texts[k] + acts[k], x.flips(0, n, 1), way);
+                Due.is("how many", x.flips(0, n, 0), way == NONE ? NONE : Integer.bitCount(way));
+            }
+        }
+        CoalGrate y = Due.of(CHEESE);
+        y.minutes(2);
+        y.move(0, 11);
+        Due.are("20 where it is cold: core 4, 7, 10, 13, 16", new int[] {y.flips(0, 3, 0), y.flips(0, 4, 0)}, NONE, 0);
     }
 
     private static CoalGrate behind(String text, String acts) {
@@ -444,6 +473,9 @@ public final class ForetoldEdgesTest {
         Due.is("a coal that sinks ahead of it is hot", Due.of("g1,0;h0;").fuelFor(0, 4), NONE);
         Due.is("13 less 2, 3, 4, 5", Due.of("g1,0;h0;").fuelFor(0, 6), 13);
         Due.is("in its cell, not in another", Due.of("g30,0;h11;").fuelFor(0, 6), 10);
+        Due.is("3, 2, 1, then out, 0 at least: a skin of 6 stays", Due.of("g1,0;h0;").fuelFor(0, 60), 5);
+        Due.is("core 15 behind 19 minutes", Due.of("g1,0;h0;").fuelFor(0, 19), 5);
+        Due.is("core 14 behind 18 minutes: 4, 3, 2, 1", Due.of("g1,0;h0;").fuelFor(0, 18), 6);
         Due.promise(27, "0: it is so without");
         Due.is("by the coals there", Due.of(CHEESE).fuelFor(0, 4), 0);
         Due.is("9, 18, 27, 36, 45: core 21", Due.of("g30,0;c0,9;h0;").fuelFor(0, 5), 0);
@@ -497,6 +529,7 @@ public final class ForetoldEdgesTest {
         inTimes();
         flipsBounds();
         flipsWays();
+        flipsInEachNumberOfMinutes();
         starts();
         startsRefused();
         fuels();

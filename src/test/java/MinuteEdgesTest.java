@@ -224,6 +224,19 @@ public final class MinuteEdgesTest {
         }
     }
 
+    private static void burntOnesGoOn() {
+        Due.promise(9, "a BURNT THING takes heat, is THROUGH and drips as any other one");
+        CoalGrate x = Due.of("g30,0;c1,30;d1;");
+        x.minutes(2);
+        Due.are("30, then 63: core 7, 22", all(x, 0), 1, 7 + 63 / 4, 63, 0, 0, 1, 1);
+        Due.is("its fat", x.heat(1), 33);
+        x.minutes(1);
+        Due.are("96: core 46", all(x, 0), 1, 22 + 96 / 4, 96, 0, 0, 1, 1);
+        x.move(0, 12);
+        x.minutes(1);
+        Due.are("aside", all(x, 0), 12, 46, 93, 0, 0, 1, 1);
+    }
+
     private static void things() {
         Due.promise(16, "Of a THING: 0 .. 6; BAD");
         CoalGrate x = Due.of("g30,0;c0,10;h0;w11;h12;eh0;");
@@ -430,6 +443,7 @@ public final class MinuteEdgesTest {
         cores();
         through();
         burnt();
+        burntOnesGoOn();
         things();
         eaters();
         embers();
@@ -437,6 +451,7 @@ public final class MinuteEdgesTest {
         heatOfCoals();
         fat();
         fatAndFresh();
+        Due.named(9, 9);
         Due.end(16, 19);
     }
 }

@@ -142,6 +142,16 @@ public final class RowEdgesTest {
         Due.is("another lane", x.row(3, BYTES, 1), 1);
         Due.is("its bits", x.set(3, 0, 256 + 9), 9);
         Due.is("one row alone", x.count(0), 1);
+        Due.promise(2, "ITEMS, 0 at first: THING 0 is TURNED by each, not none");
+        CoalGrate y = Due.of("g30,0;c0,10;h0;");
+        for (int lane = BYTES; lane <= INTS; lane++) {
+            y.row(0, lane, 8);
+            Due.is("turned ahead of each of 8: not burnt", y.judged(0, 0, 8), 1);
+            for (int i = 0; i < 8; i++) {
+                y.set(0, i, -1);
+            }
+            Due.is("as it lies: burnt", y.judged(0, 0, 8), 0);
+        }
         Due.promise(2, "a ROW of no ITEMS is not missing");
         Due.is("none", x.row(4, SHORTS, 0), 0);
         Due.is("rows", x.count(0), 2);

@@ -317,6 +317,45 @@ public final class TextEdgesTest {
         Due.is("sink 30: 210 minutes of fire", x.fuel(), NONE);
     }
 
+    /** Nothing of a full YARD, be it well or burnt, is seen in the one that is read next, or next but one. */
+    private static void yardsInARow() {
+        Due.promise(7, "A YARD that is read stands in place of the one before: of two before it, too");
+        for (int between = 0; between <= 2; between++) {
+            for (int burnt = 0; burnt <= 1; burnt++) {
+                CoalGrate x = Due.of("g30,0;c0,10;c2,10;c5,10;c7,10;c8,10;c10,10;h0;h2;h5;h7;h8;h10;eh0;eh0;eh0;eh0;");
+                x.minutes(4);
+                for (int t = 0; t < 6 && burnt == 1; t++) {
+                    x.turn(t);
+                }
+                x.minutes(1 + 7 * burnt);
+                Due.is("all are through, or all are burnt", x.hand(1, 1 - burnt), 63);
+                for (int k = 0; k < between; k++) {
+                    Due.read(x, "g30,0;");
+                }
+                Due.read(x, "g30,6;c11,1;h0;h4;eh0;");
+                twoCheesesByTheWind(x);
+            }
+        }
+    }
+
+    private static void twoCheesesByTheWind(CoalGrate x) {
+        Due.are("counts", new int[] {x.count(1), x.count(2), x.count(3), x.count(6)}, 2, 1, 1, 1);
+        for (int t = 0; t < 2; t++) {
+            for (int what = 1; what <= 6; what++) {
+                Due.is("cold: thing " + t + ", " + what, x.thing(t, what), 0);
+            }
+        }
+        Due.is("no heat of the old coals", x.heat(5) + x.heat(10), 0);
+        Due.is("none is burnt", x.hand(1, 0), 0);
+        Due.is("none is through", x.hand(1, 1), 0);
+        x.minutes(5);
+        Due.is("none is burnt", x.hand(1, 0), 0);
+        Due.is("both are through", x.hand(1, 1), 3);
+        Due.is("one eater", x.servable(0, -1), 1);
+        x.row(0, 0, 1);
+        Due.is("judged", x.judged(0, 0, 0), 3);
+    }
+
     private static void sameTextAgain() {
         Due.promise(7, "the same text again is a new YARD, too");
         CoalGrate x = new CoalGrate();
@@ -403,6 +442,7 @@ public final class TextEdgesTest {
         firstToken();
         orderOfParts();
         newYard();
+        yardsInARow();
         sameTextAgain();
         faultLeavesAll();
         faults();
